@@ -14,6 +14,7 @@ public final class KeyTurnerPromises {
         delayCountsAsWritten();
         quiet();
         quietAndLastEndTheWait();
+        lastIsHundredAtFirst();
         down();
         downReadersWait();
         turn();
@@ -246,6 +247,21 @@ public final class KeyTurnerPromises {
         y.tick(1);
         due("QUIET as it is now", y.told(0, 5), 4);
         due("begun at 8", y.told(0, 11), 8);
+    }
+
+    private static void lastIsHundredAtFirst() {
+        part("5 LAST is 100 at first");
+        KeyTurner x = withTwo();
+        x.turn(0);
+        x.tick(2);
+        for (int i = 0; i < 11; i++) {
+            x.stranger(4, 0, 0, 0);
+            x.tick(9);
+        }
+        due("told(0, 5) at 101", x.told(0, 5), 3);
+        x.stranger(4, 0, 0, 0);
+        x.tick(1);
+        due("told(0, 5) at 102", x.told(0, 5), 4);
     }
 
     private static void down() {
