@@ -29,6 +29,7 @@ public final class KeyTurnerPromises {
         stolenAgainInHurriedStepTwo();
         stolenRefused();
         tick();
+        lettersToAllSixteen();
         turnerDown();
         ask();
         stranger();
@@ -561,6 +562,26 @@ public final class KeyTurnerPromises {
         due("turn(0)", x.turn(0), 2);
         due("age", x.told(0, 7), 100000);
         due("over", x.turned(0, 3), 13);
+    }
+
+    /** The most LETTERS that one TURN can have at once; many TICKS in one call are as good as one by one. */
+    private static void lettersToAllSixteen() {
+        part("9 LETTERS to all sixteen");
+        KeyTurner x = new KeyTurner();
+        x.secret(0, 1023, 63, 50);
+        for (int who = 0; who <= 15; who++) {
+            x.delay(who, who + 1);
+        }
+        x.turn(0);
+        due("tick(16)", x.tick(16), 16);
+        due("STEP", x.told(0, 5), 2);
+        x.stolen(0);
+        due("STEP behind STOLEN", x.told(0, 5), 4);
+        due("LETTERS", x.told(0, 10), 16);
+        due("count(4)", x.count(4), 16);
+        due("tick(20)", x.tick(20), 36);
+        due("STEP at the end", x.told(0, 5), 0);
+        due("turned(0, 3)", x.turned(0, 3), 32);
     }
 
     private static void turnerDown() {
